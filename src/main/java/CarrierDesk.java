@@ -9,6 +9,7 @@ import java.util.NoSuchElementException;
  */
 public final class CarrierDesk {
     private static final int NONE = -1;
+    private static final int DOUBLE = -1;
 
     private static final int SOURCES = 3;
     private static final int MAX_CALLS = 60;
@@ -74,7 +75,7 @@ public final class CarrierDesk {
         }
         if (from.has(sequence)) {
             from.doubleCount++;
-            return NONE;
+            return DOUBLE;
         }
         Call call = callJoinedBy(source, number, begin, seconds);
         if (call == null) {
@@ -579,6 +580,7 @@ public final class CarrierDesk {
         }
 
         private static int quotientUp(int amount, int unit) {
+            // No rate has a step below 1; looked at here as well, where the division stands.
             return unit < 1 ? 0 : (amount + unit - 1) / unit;
         }
     }

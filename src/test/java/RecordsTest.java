@@ -113,6 +113,9 @@ public final class RecordsTest {
         expect.same("64 before it", 2, desk.record(1, 0, 4500, 100, 10));
         expect.same("32 behind it", 3, desk.record(1, 96, 4500, 100, 10));
         expect.same("8 behind it", 4, desk.record(1, 72, 4500, 100, 10));
+        expect.same("the least number again", -1, desk.record(1, 0, 4500, 100, 10));
+        expect.same("the greatest number", 5, desk.record(1, 9999, 4500, 100, 10));
+        expect.same("the greatest number again", -1, desk.record(1, 9999, 4500, 100, 10));
     }
 
     private static void legsAreJoined() {

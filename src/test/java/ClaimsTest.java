@@ -15,13 +15,16 @@ public final class ClaimsTest {
         narrowWithoutSign();
         narrowWithoutDifferences();
         narrowGoesOnBehindTheDigit();
+        narrowBySums();
+        narrowAtItsEdges();
         worst();
+        worstOfSeveral();
         expect.end();
     }
 
     /** Promise 20. */
     private static void claim() {
-        CarrierDesk desk = new CarrierDesk();
+        Desk desk = new Desk();
         desk.record(0, 0, 4500, 0, 60);
         desk.record(0, 1, 4500, 0, 60);
         expect.same("nothing before", 0, desk.claim(0, 1000000));
@@ -40,7 +43,7 @@ public final class ClaimsTest {
 
     /** Promise 21. */
     private static void difference() {
-        CarrierDesk desk = new CarrierDesk();
+        Desk desk = new Desk();
         desk.record(0, 0, 1234, 0, 60);
         desk.record(0, 1, 12345, 0, 100);
         desk.record(0, 2, 21234, 0, 60);
@@ -68,7 +71,7 @@ public final class ClaimsTest {
 
     /** Promise 22. */
     private static void narrow() {
-        CarrierDesk desk = new CarrierDesk();
+        Desk desk = new Desk();
         desk.record(0, 0, 90909, 0, 60);
         desk.record(0, 1, 81828, 0, 60);
         desk.record(0, 2, 1000, 0, 60);
@@ -89,7 +92,7 @@ public final class ClaimsTest {
     }
 
     private static void narrowWithoutSign() {
-        CarrierDesk desk = new CarrierDesk();
+        Desk desk = new Desk();
         desk.addRate(7, 0, 60, 1, 0, 0);
         desk.record(0, 0, 77777, 0, 200);
         desk.record(0, 1, 33333, 0, 0);
@@ -101,7 +104,7 @@ public final class ClaimsTest {
     }
 
     private static void narrowWithoutDifferences() {
-        CarrierDesk desk = new CarrierDesk();
+        Desk desk = new Desk();
         expect.same("no calls, one digit", 1, desk.narrow(1));
         expect.same("no calls, five digits", 10000, desk.narrow(5));
         desk.record(0, 0, 99999, 0, 60);
@@ -109,7 +112,7 @@ public final class ClaimsTest {
     }
 
     private static void narrowGoesOnBehindTheDigit() {
-        CarrierDesk desk = new CarrierDesk();
+        Desk desk = new Desk();
         desk.record(0, 0, 51000, 0, 60);
         desk.record(0, 1, 52000, 0, 60);
         desk.record(0, 2, 61000, 0, 60);
@@ -120,9 +123,74 @@ public final class ClaimsTest {
         expect.same("within it the greatest one", 52, desk.narrow(2));
     }
 
+    /** The sum of a prefix counts, so that what cancels out within it does not. */
+    private static void narrowBySums() {
+        Desk desk = new Desk();
+        desk.addRate(11, 0, 60, 1, 0, 0);
+        desk.record(0, 0, 11000, 0, 100);
+        desk.record(0, 1, 12000, 0, 100);
+        desk.record(0, 2, 90000, 0, 100);
+        desk.book();
+        desk.claim(1, 100);
+        desk.claim(2, 1);
+        expect.same("100 less and 100 more", 0, desk.difference(1));
+        expect.same("one more elsewhere", 9, desk.narrow(1));
+        desk.claim(1, 101);
+        expect.same("as much, the least one", 1, desk.narrow(1));
+        expect.same("within it the greatest one", 12, desk.narrow(2));
+        desk.claim(1, 100);
+        desk.claim(2, 0);
+        expect.same("nothing left", 1, desk.narrow(1));
+        expect.same("of two alike the least one, less as it is", 11, desk.narrow(2));
+    }
+
+    /** The digits 0 and 9: the first one is not 0, those behind it are 0 to 9. */
+    private static void narrowAtItsEdges() {
+        for (int number : new int[] {1000, 1009, 1090, 9009, 9090, 9900, 9999}) {
+            Desk desk = new Desk();
+            desk.record(0, 0, number, 0, 60);
+            desk.claim(0, 1);
+            int prefix = number;
+            for (int digits = 4; digits >= 1; digits--) {
+                expect.same("digits of " + number, prefix, desk.narrow(digits));
+                prefix /= 10;
+            }
+            expect.same("a digit behind " + number, number * 10, desk.narrow(5));
+        }
+        Desk longer = new Desk();
+        longer.record(0, 0, 99999999, 0, 60);
+        longer.claim(0, 1);
+        expect.same("five of eight digits", 99999, longer.narrow(5));
+    }
+
+    /** "without the sign, of several the one with the lowest number" */
+    private static void worstOfSeveral() {
+        Desk desk = new Desk();
+        desk.addRate(4, 0, 60, 1, 0, 0);
+        desk.record(0, 0, 4500, 0, 0);
+        desk.record(0, 1, 4600, 0, 50);
+        desk.record(0, 2, 7000, 0, 0);
+        desk.book();
+        expect.same("50 less", 1, desk.worst());
+        desk.claim(2, 49);
+        expect.same("49 more", 1, desk.worst());
+        desk.claim(2, 50);
+        expect.same("as much, the lower number", 1, desk.worst());
+        desk.claim(0, 50);
+        expect.same("as much, the lowest number", 0, desk.worst());
+        desk.claim(2, 51);
+        expect.same("one more", 2, desk.worst());
+        desk.claim(1, 102);
+        expect.same("52 more", 1, desk.worst());
+        desk.claim(1, 50);
+        desk.claim(2, 0);
+        desk.claim(0, 0);
+        expect.same("no difference at all", 0, desk.worst());
+    }
+
     /** Promise 23. */
     private static void worst() {
-        CarrierDesk desk = new CarrierDesk();
+        Desk desk = new Desk();
         expect.refused("no calls", desk, NO_SUCH, desk::worst);
         desk.record(0, 0, 4500, 0, 60);
         desk.record(0, 1, 4600, 0, 100);

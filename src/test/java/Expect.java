@@ -16,6 +16,11 @@ final class Expect {
         look(what, Long.toString(due), Long.toString(got));
     }
 
+    /** A call that throws where it must not is told by that, and the test goes on. */
+    void answers(String what, long due, Asked asked) {
+        look(what, Long.toString(due), Outcome.of(asked));
+    }
+
     void look(String what, String due, String got) {
         looks++;
         if (!due.equals(got)) {
@@ -25,7 +30,7 @@ final class Expect {
     }
 
     /** The call throws this very class, none below it, and changes nothing of the desk. */
-    void refused(String what, CarrierDesk desk, Class<? extends Exception> due, Asked asked) {
+    void refused(String what, Desk desk, Class<? extends Exception> due, Asked asked) {
         String before = Outcome.stateOf(desk);
         look(what, due.getName(), Outcome.of(asked));
         look("the state after " + what, before, Outcome.stateOf(desk));

@@ -30,7 +30,7 @@ public final class RatesTest {
 
     /** Promise 9. */
     private static void addRateOutOfRange() {
-        CarrierDesk desk = new CarrierDesk();
+        Desk desk = new Desk();
         expect.same("the least rate", 0, desk.addRate(1, 0, 0, 1, 0, 0));
         expect.same("the greatest rate", 1, desk.addRate(99999, 999, 10000, 60, 120, 1000));
         int[][] wrong = {
@@ -50,7 +50,7 @@ public final class RatesTest {
     }
 
     private static void thirtyRates() {
-        CarrierDesk desk = new CarrierDesk();
+        Desk desk = new Desk();
         for (int i = 0; i < 30; i++) {
             expect.same("a rate", i, desk.addRate(4, 0, i, 1, 0, 0));
         }
@@ -61,7 +61,7 @@ public final class RatesTest {
 
     /** Promise 10. */
     private static void longestPrefix() {
-        CarrierDesk desk = new CarrierDesk();
+        Desk desk = new Desk();
         desk.addRate(12345, 3, 0, 1, 0, 0);
         desk.addRate(1, 1, 0, 1, 0, 0);
         desk.addRate(123, 2, 0, 1, 0, 0);
@@ -82,7 +82,7 @@ public final class RatesTest {
     }
 
     private static void latestDay() {
-        CarrierDesk desk = new CarrierDesk();
+        Desk desk = new Desk();
         desk.addRate(45, 10, 0, 1, 0, 0);
         desk.addRate(45, 5, 0, 1, 0, 0);
         desk.addRate(45, 10, 0, 1, 0, 0);
@@ -100,7 +100,7 @@ public final class RatesTest {
     }
 
     private static void rateForOutOfRange() {
-        CarrierDesk desk = new CarrierDesk();
+        Desk desk = new Desk();
         desk.addRate(9, 0, 0, 1, 0, 0);
         int[][] wrong = {
             {999, 0}, {100000000, 0}, {9, 0}, {-9000, 0}, {Integer.MIN_VALUE, 0},
@@ -124,7 +124,7 @@ public final class RatesTest {
             {100, 1, 0, 3, 1, 5}, {0, 60, 120, 9, 500, 9}, {10, 7, 120, 0, 600, 101},
         };
         for (int[] d : due) {
-            CarrierDesk desk = new CarrierDesk();
+            Desk desk = new Desk();
             desk.addRate(4, 0, d[0], d[1], d[2], d[3]);
             desk.record(0, 0, 4500, 0, d[4]);
             expect.same("charge" + Arrays.toString(d), d[5], desk.charge(0));
@@ -132,19 +132,19 @@ public final class RatesTest {
     }
 
     private static void chargeAtItsEdges() {
-        CarrierDesk desk = new CarrierDesk();
+        Desk desk = new Desk();
         desk.addRate(9, 0, 10000, 60, 120, 1000);
         desk.record(0, 0, 99999999, 999999, 10000);
         // 10000 seconds are 167 steps of 60.
         expect.same("the greatest charge", 1671000, desk.charge(0));
-        CarrierDesk steps = new CarrierDesk();
+        Desk steps = new Desk();
         steps.addRate(9, 999, 10000, 59, 0, 1000);
         steps.record(0, 0, 99999999, 999000, 10000);
         expect.same("170 steps of 59", 1000 + 1671667, steps.charge(0));
     }
 
     private static void chargeOnTheDayOfTheFirstLeg() {
-        CarrierDesk desk = new CarrierDesk();
+        Desk desk = new Desk();
         desk.addRate(4, 0, 60, 1, 0, 0);
         desk.addRate(4, 2, 120, 1, 0, 0);
         desk.record(0, 0, 4500, 1999, 60);
@@ -158,7 +158,7 @@ public final class RatesTest {
     }
 
     private static void chargeRefused() {
-        CarrierDesk desk = new CarrierDesk();
+        Desk desk = new Desk();
         desk.record(0, 0, 4500, 1999, 60);
         desk.addRate(5, 0, 60, 1, 0, 0);
         desk.addRate(4, 2, 60, 1, 0, 0);
@@ -170,7 +170,7 @@ public final class RatesTest {
 
     /** Promises 12 and 13. */
     private static void book() {
-        CarrierDesk desk = new CarrierDesk();
+        Desk desk = new Desk();
         desk.record(0, 0, 4500, 0, 60);
         desk.record(0, 1, 5500, 0, 60);
         expect.same("without rates", 0, desk.book());
@@ -190,7 +190,7 @@ public final class RatesTest {
     }
 
     private static void bookedRefused() {
-        CarrierDesk desk = new CarrierDesk();
+        Desk desk = new Desk();
         desk.addRate(4, 0, 60, 1, 0, 0);
         desk.record(0, 0, 4500, 0, 60);
         expect.refused("not booked yet", desk, NO_SUCH, () -> desk.booked(0));
@@ -201,7 +201,7 @@ public final class RatesTest {
 
     /** Promises 14 and 15. */
     private static void correct() {
-        CarrierDesk desk = new CarrierDesk();
+        Desk desk = new Desk();
         desk.addRate(4, 0, 60, 1, 0, 0);
         desk.record(0, 0, 4500, 0, 60);
         desk.record(0, 1, 4600, 0, 100);
@@ -226,7 +226,7 @@ public final class RatesTest {
     }
 
     private static void correctionsAreCountedEach() {
-        CarrierDesk desk = new CarrierDesk();
+        Desk desk = new Desk();
         desk.addRate(4, 0, 60, 1, 0, 0);
         desk.record(0, 0, 4500, 0, 60);
         desk.record(0, 1, 4600, 0, 60);
@@ -242,7 +242,7 @@ public final class RatesTest {
 
     /** Promise 16. */
     private static void total() {
-        CarrierDesk desk = new CarrierDesk();
+        Desk desk = new Desk();
         desk.record(0, 0, 1234, 0, 1);
         desk.record(0, 1, 12345, 0, 10);
         desk.record(0, 2, 12345678, 0, 100);

@@ -18,6 +18,8 @@ public final class RecordsTest {
         firstLegDecides();
         sixtyCalls();
         gaps();
+        gapsBetweenTwo();
+        gapsOfWhatIsNotTaken();
         doubles();
         legs();
         length();
@@ -27,7 +29,7 @@ public final class RecordsTest {
 
     /** Promise 1. */
     private static void newObject() {
-        CarrierDesk desk = new CarrierDesk();
+        Desk desk = new Desk();
         expect.same("calls", 0, desk.calls());
         expect.same("corrections", 0, desk.corrections());
         expect.same("book", 0, desk.book());
@@ -49,7 +51,7 @@ public final class RecordsTest {
 
     /** Promise 2. */
     private static void setBound() {
-        CarrierDesk desk = new CarrierDesk();
+        Desk desk = new Desk();
         expect.same("the bound at first", 5, desk.setBound(100));
         expect.same("the bound before", 100, desk.setBound(0));
         expect.same("the bound before", 0, desk.setBound(7));
@@ -60,7 +62,7 @@ public final class RecordsTest {
     }
 
     private static void boundHoldsFromNowOn() {
-        CarrierDesk desk = new CarrierDesk();
+        Desk desk = new Desk();
         desk.record(0, 0, 5000, 1000, 50);
         expect.same("6 apart, bound 5", 1, desk.record(1, 0, 5000, 1006, 50));
         desk.setBound(6);
@@ -76,7 +78,7 @@ public final class RecordsTest {
 
     /** Promise 3, the wrong inputs. */
     private static void recordOutOfRange() {
-        CarrierDesk desk = new CarrierDesk();
+        Desk desk = new Desk();
         desk.record(0, 3, 4500, 5, 5);
         int[][] wrong = {
             {-1, 0, 4500, 0, 0}, {3, 0, 4500, 0, 0}, {Integer.MIN_VALUE, 0, 4500, 0, 0},
@@ -94,7 +96,7 @@ public final class RecordsTest {
     }
 
     private static void recordAtItsEdges() {
-        CarrierDesk desk = new CarrierDesk();
+        Desk desk = new Desk();
         expect.same("the least record", 0, desk.record(0, 0, 1000, 0, 0));
         expect.same("the greatest record", 1, desk.record(2, 9999, 99999999, 999999, 10000));
         expect.same("length", 10000, desk.length(1));
@@ -102,7 +104,7 @@ public final class RecordsTest {
     }
 
     private static void doublesAreLeftOut() {
-        CarrierDesk desk = new CarrierDesk();
+        Desk desk = new Desk();
         expect.same("the record", 0, desk.record(1, 64, 4500, 100, 10));
         expect.same("the same again", -1, desk.record(1, 64, 4500, 100, 10));
         expect.same("another call under its number", -1, desk.record(1, 64, 7777, 9000, 99));
@@ -119,7 +121,7 @@ public final class RecordsTest {
     }
 
     private static void legsAreJoined() {
-        CarrierDesk desk = new CarrierDesk();
+        Desk desk = new Desk();
         desk.record(0, 0, 12345, 1000, 60);
         expect.same("another number", 1, desk.record(1, 0, 12346, 1000, 60));
         expect.same("a number that begins alike", 2, desk.record(1, 1, 1234, 1000, 60));
@@ -134,7 +136,7 @@ public final class RecordsTest {
     }
 
     private static void lowestCallIsJoined() {
-        CarrierDesk desk = new CarrierDesk();
+        Desk desk = new Desk();
         desk.record(0, 0, 12345, 1000, 60);
         desk.record(0, 1, 12345, 1001, 60);
         desk.record(0, 2, 12345, 1002, 60);
@@ -146,11 +148,11 @@ public final class RecordsTest {
     }
 
     private static void firstLegDecides() {
-        CarrierDesk desk = new CarrierDesk();
+        Desk desk = new Desk();
         desk.record(1, 0, 12345, 1000, 60);
         expect.same("5 from the first", 0, desk.record(2, 0, 12345, 1005, 65));
         expect.same("1 from the second, 6 from the first", 1, desk.record(0, 0, 12345, 1006, 60));
-        CarrierDesk other = new CarrierDesk();
+        Desk other = new Desk();
         other.record(1, 0, 12345, 1000, 60);
         other.record(2, 0, 12345, 1000, 65);
         expect.same("1 from the length, 6 from the first's", 1,
@@ -158,7 +160,7 @@ public final class RecordsTest {
     }
 
     private static void sixtyCalls() {
-        CarrierDesk desk = new CarrierDesk();
+        Desk desk = new Desk();
         for (int i = 0; i < 60; i++) {
             expect.same("a new call", i, desk.record(0, i, 4500, 10000 + i * 100, 30));
         }
@@ -173,7 +175,7 @@ public final class RecordsTest {
 
     /** Promise 4. */
     private static void gaps() {
-        CarrierDesk desk = new CarrierDesk();
+        Desk desk = new Desk();
         desk.record(1, 9999, 4500, 0, 0);
         expect.same("one number", 0, desk.gaps(1));
         desk.record(1, 9999, 4500, 0, 0);
@@ -195,9 +197,43 @@ public final class RecordsTest {
         }
     }
 
+    /** "those between the least and the greatest one", whichever came first. */
+    private static void gapsBetweenTwo() {
+        int[][] due = {{0, 1, 0}, {0, 2, 1}, {63, 64, 0}, {62, 64, 1}, {0, 63, 62}, {0, 64, 63},
+            {64, 127, 62}, {9998, 9999, 0}, {9997, 9999, 1}, {0, 9999, 9998}, {1, 9999, 9997}};
+        for (int[] d : due) {
+            for (int source = 0; source < 3; source++) {
+                Desk rising = new Desk();
+                rising.record(source, d[0], 4500, 0, 0);
+                rising.record(source, d[1], 4500, 0, 0);
+                expect.same("from " + d[0] + " to " + d[1], d[2], rising.gaps(source));
+                Desk falling = new Desk();
+                falling.record(source, d[1], 4500, 0, 0);
+                falling.record(source, d[0], 4500, 0, 0);
+                expect.same("from " + d[1] + " to " + d[0], d[2], falling.gaps(source));
+            }
+        }
+    }
+
+    /** What is left out or refused has not been delivered, or not once more. */
+    private static void gapsOfWhatIsNotTaken() {
+        Desk desk = new Desk();
+        desk.record(1, 10, 4500, 0, 0);
+        desk.record(1, 20, 4500, 0, 0);
+        desk.record(1, 10, 4500, 0, 0);
+        desk.record(1, 20, 7000, 0, 0);
+        expect.same("doubles", 9, desk.gaps(1));
+        expect.refused("a wrong record", desk, ARGUMENT, () -> desk.record(1, 30, 999, 0, 0));
+        expect.refused("a wrong double", desk, ARGUMENT, () -> desk.record(1, 10, 999, 0, 0));
+        expect.same("after the wrong ones", 9, desk.gaps(1));
+        expect.same("doubles after the wrong ones", 2, desk.doubles(1));
+        expect.same("the number is still free", 2, desk.record(1, 30, 4500, 0, 0));
+        expect.same("now it is delivered", 18, desk.gaps(1));
+    }
+
     /** Promise 5. */
     private static void doubles() {
-        CarrierDesk desk = new CarrierDesk();
+        Desk desk = new Desk();
         desk.record(2, 5, 4500, 0, 0);
         expect.same("none", 0, desk.doubles(2));
         desk.record(2, 5, 4500, 0, 0);
@@ -216,7 +252,7 @@ public final class RecordsTest {
 
     /** Promises 6 and 7. */
     private static void legs() {
-        CarrierDesk desk = new CarrierDesk();
+        Desk desk = new Desk();
         desk.record(0, 0, 4500, 0, 0);
         desk.record(1, 0, 4600, 0, 0);
         desk.record(2, 0, 4700, 0, 0);
@@ -236,7 +272,7 @@ public final class RecordsTest {
 
     /** Promise 8. */
     private static void length() {
-        CarrierDesk desk = new CarrierDesk();
+        Desk desk = new Desk();
         desk.record(0, 0, 4500, 0, 50);
         expect.same("one leg", 50, desk.length(0));
         desk.record(1, 0, 4500, 0, 45);
@@ -251,14 +287,14 @@ public final class RecordsTest {
     }
 
     private static void desksAreApart() {
-        CarrierDesk one = new CarrierDesk();
-        CarrierDesk other = new CarrierDesk();
+        Desk one = new Desk();
+        Desk other = new Desk();
         one.record(0, 0, 4500, 0, 50);
         one.record(0, 0, 4500, 0, 50);
         one.addRate(4, 0, 60, 1, 0, 0);
         one.offer(0, 4, 1);
         one.setBound(50);
-        expect.look("a desk beside a used one", Outcome.stateOf(new CarrierDesk()),
+        expect.look("a desk beside a used one", Outcome.stateOf(new Desk()),
                 Outcome.stateOf(other));
     }
 }

@@ -17,6 +17,7 @@ public final class RoutesTest {
         offerForOutOfRange();
         routeInOrder();
         routeWithinTheMargin();
+        routeAtTheLimit();
         routeOnItsDay();
         routeOutOfRange();
         expect.end();
@@ -24,7 +25,7 @@ public final class RoutesTest {
 
     /** Promise 17. */
     private static void offer() {
-        CarrierDesk desk = new CarrierDesk();
+        Desk desk = new Desk();
         expect.same("the first price", -1, desk.offer(2, 45, 10000));
         expect.same("the same carrier again", 10000, desk.offer(2, 45, 0));
         expect.same("a price of 0", 0, desk.offer(2, 45, 7));
@@ -41,7 +42,7 @@ public final class RoutesTest {
     }
 
     private static void offerOutOfRange() {
-        CarrierDesk desk = new CarrierDesk();
+        Desk desk = new Desk();
         desk.offer(0, 4, 5);
         int[][] wrong = {
             {-1, 4, 0}, {4, 4, 0}, {Integer.MIN_VALUE, 4, 0}, {Integer.MAX_VALUE, 4, 0},
@@ -55,7 +56,7 @@ public final class RoutesTest {
     }
 
     private static void tenOffers() {
-        CarrierDesk desk = new CarrierDesk();
+        Desk desk = new Desk();
         for (int prefix = 11; prefix <= 20; prefix++) {
             expect.same("an offer", -1, desk.offer(1, prefix, prefix));
         }
@@ -74,7 +75,7 @@ public final class RoutesTest {
 
     /** Promise 18. */
     private static void offerFor() {
-        CarrierDesk desk = new CarrierDesk();
+        Desk desk = new Desk();
         desk.offer(0, 12345, 50);
         desk.offer(0, 1, 10);
         desk.offer(0, 123, 30);
@@ -90,7 +91,7 @@ public final class RoutesTest {
     }
 
     private static void offerForOutOfRange() {
-        CarrierDesk desk = new CarrierDesk();
+        Desk desk = new Desk();
         desk.offer(0, 9, 50);
         int[][] wrong = {
             {-1, 9000}, {4, 9000}, {Integer.MIN_VALUE, 9000}, {Integer.MAX_VALUE, 9000},
@@ -104,7 +105,7 @@ public final class RoutesTest {
 
     /** Promise 19. */
     private static void routeInOrder() {
-        CarrierDesk desk = new CarrierDesk();
+        Desk desk = new Desk();
         desk.addRate(4, 0, 100, 1, 0, 0);
         desk.offer(3, 45, 10);
         desk.offer(1, 4, 30);
@@ -127,7 +128,7 @@ public final class RoutesTest {
     }
 
     private static void routeWithinTheMargin() {
-        CarrierDesk desk = new CarrierDesk();
+        Desk desk = new Desk();
         desk.addRate(4, 0, 100, 1, 0, 50);
         desk.offer(0, 4, 80);
         desk.offer(1, 4, 70);
@@ -143,8 +144,28 @@ public final class RoutesTest {
         due(desk, 101);
     }
 
+    /** "at most the price of the rate for it, less the margin": the last offer within it or not. */
+    private static void routeAtTheLimit() {
+        // price, margin, offer, 1 if it is within
+        int[][] due = {
+            {0, 0, 0, 1}, {0, 0, 1, 0}, {0, 1, 0, 0}, {10000, 0, 10000, 1}, {10000, 1, 9999, 1},
+            {10000, 1, 10000, 0}, {10000, 10000, 0, 1}, {10000, 10000, 1, 0}, {9999, 10000, 0, 0},
+            {0, 10000, 0, 0}, {50, 20, 30, 1}, {50, 20, 31, 0},
+        };
+        for (int[] d : due) {
+            Desk desk = new Desk();
+            desk.addRate(4, 0, d[0], 60, 120, 1000);
+            desk.offer(3, 4, d[2]);
+            String what = "route" + Arrays.toString(d);
+            expect.look(what, d[3] == 1 ? "3" : NO_SUCH.getName(),
+                    Outcome.of(() -> desk.route(4500, 0, d[1], 0)));
+            expect.refused(what + ", the second", desk, NO_SUCH,
+                    () -> desk.route(4500, 0, d[1], 1));
+        }
+    }
+
     private static void routeOnItsDay() {
-        CarrierDesk desk = new CarrierDesk();
+        Desk desk = new Desk();
         desk.offer(0, 4, 50);
         desk.offer(1, 4, 10);
         expect.refused("no rate", desk, NO_SUCH, () -> desk.route(4500, 5, 0, 0));
@@ -159,7 +180,7 @@ public final class RoutesTest {
     }
 
     private static void routeOutOfRange() {
-        CarrierDesk desk = new CarrierDesk();
+        Desk desk = new Desk();
         desk.addRate(9, 0, 10000, 1, 0, 0);
         desk.offer(0, 9, 0);
         expect.same("the greatest margin", 0, desk.route(99999999, 999, 10000, 0));
@@ -180,7 +201,7 @@ public final class RoutesTest {
     }
 
     /** The carriers for 4500 on the day 0, and none behind them. */
-    private static void due(CarrierDesk desk, int margin, int... carriers) {
+    private static void due(Desk desk, int margin, int... carriers) {
         for (int rank = 0; rank < carriers.length; rank++) {
             expect.same("rank " + rank + " of " + Arrays.toString(carriers), carriers[rank],
                     desk.route(4500, 0, margin, rank));

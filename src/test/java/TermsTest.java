@@ -429,6 +429,9 @@ public final class TermsTest {
         desk.addRate(4, 0, 60, 1, 0, 0);
         expect.same("up again", 60, desk.correct());
         expect.same("counted each time", 3, desk.corrections());
+        desk.addRate(4, 0, 1, 1, 0, 0);
+        expect.same("down to 1", -59, desk.correct());
+        expect.same("it is 1", 1, desk.booked(0));
     }
 
     /** "for all calls that are booked and have a rate" */
